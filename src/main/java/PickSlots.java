@@ -909,8 +909,6 @@ public final class PickSlots {
         boolean readOrder() {
             kind = nextSign();
             at++;
-            first = NONE;
-            second = NONE;
             switch (kind) {
                 case 'w':
                     return readSign(';');

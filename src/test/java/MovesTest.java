@@ -14,6 +14,7 @@ public final class MovesTest {
         promise16BestExchangeIsToldByLowerGood();
         promise16OnlyAboveNothing();
         promise17Improve();
+        promise17ImproveGoodAndSlot0();
         promise17ImproveErrors();
         Check.end();
     }
@@ -250,6 +251,11 @@ public final class MovesTest {
         Check.due("worth 0", x.worth(1, 1, 0), RAISE);
         best(x, "worth 0 is not enough", Check.MISSING, Check.MISSING, Check.MISSING);
         Check.due("nor for improve", x.improve(1), Check.MISSING);
+        x.good(23, 1);
+        x.take(1);
+        x.place(2, 0);
+        x.demand(2, 0, 3);
+        best(x, "worth 1 is", 2, 1, 1);
     }
 
     private static void promise17Improve() {
@@ -290,6 +296,15 @@ public final class MovesTest {
         }
         Check.due("nothing is left", done, Check.MISSING);
         Check.due("all were counted", x.account(6), total);
+    }
+
+    private static void promise17ImproveGoodAndSlot0() {
+        PickSlots x = new PickSlots();
+        x.good(31, 1);
+        x.demand(0, 0, 10);
+        x.place(0, 54);
+        Check.due("good 0 to slot 0", x.improve(10), 1);
+        Check.due("it is there", x.goodOf(0, 6), 0);
     }
 
     private static void promise17ImproveErrors() {

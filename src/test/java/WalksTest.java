@@ -8,6 +8,7 @@ public final class WalksTest {
         promise20Account();
         promise20Base();
         promise21Count();
+        promise21CountOfTwenty();
         promise22Set();
         promise23Undo();
         promise23UndoOfEachChange();
@@ -61,6 +62,12 @@ public final class WalksTest {
         Check.due("other seasons", x.atBest(0), 0);
         x.take(1);
         Check.due("its slot does not count then", x.atBest(2), 500 * 4 + 20 * 7);
+        x.take(0);
+        Check.due("one good", x.atBest(2), 20 * 4);
+        x.move(2, 59);
+        Check.due("farther", x.atBest(2), 20 * 49);
+        x.move(2, 2);
+        Check.due("and nearer again", x.atBest(2), 20 * 4);
         Check.due("atBest 4", x.atBest(4), Check.INVALID);
         for (int wild : Check.WILD) {
             Check.due("atBest " + wild, x.atBest(wild), Check.INVALID);
@@ -157,6 +164,30 @@ public final class WalksTest {
         }
     }
 
+    /** All calls that go through the goods, with as many as there can be. */
+    private static void promise21CountOfTwenty() {
+        PickSlots x = new PickSlots();
+        int weekly = 0;
+        for (int n = 0; n < 20; n++) {
+            x.good(1, 1);
+            x.demand(n, 0, 4 * n);
+            x.deliver(n, 2);
+            weekly += 4 * n * x.place(n, 3 * n);
+            x.refill(n);
+        }
+        Check.due("goods", x.count(0), 20);
+        Check.due("in slots", x.count(1), 20);
+        Check.due("units in slots", x.count(5), 20);
+        Check.due("units in the store", x.count(6), 20);
+        Check.due("without units", x.count(7), 0);
+        Check.due("weekly", x.weekly(0), weekly);
+        Check.due("best", x.best(0), 19);
+        Check.due("at best is at most that", x.atBest(0) > 0 && x.atBest(0) <= weekly ? 1 : 0, 1);
+        Check.due("endWeek", x.endWeek(), 1);
+        Check.due("a quarter less", x.weekly(0), weekly / 4 * 3);
+        Check.due("improve", x.improve(10), 10);
+    }
+
     private static void promise22Set() {
         int[] least = {0, 1, 0};
         int[] greatest = {200, 500, 1};
@@ -202,6 +233,15 @@ public final class WalksTest {
         x.good(40, 9);
         Check.due("history grows again", x.count(8), 1);
         Check.due("undo", x.undo(), 0);
+        Check.due("goods are as before", x.count(0), 3);
+        for (int n = 0; n < 9; n++) {
+            x.endWeek();
+            Check.due("an error between changes", x.good(41, 1), Check.INVALID);
+        }
+        for (int n = 8; n >= 5; n--) {
+            Check.due("undo", x.undo(), n - 5);
+            Check.due("week", x.count(2), n);
+        }
     }
 
     /** All that is told about the state but the text. */
