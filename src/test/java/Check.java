@@ -10,16 +10,26 @@ final class Check {
 
     private static int wrong = 0;
     private static int asked = 0;
+    private static String about = "";
 
     private Check() {
+    }
+
+    /** What is printed ahead of the calls that are not answered as is due. */
+    static void begin(String test) {
+        about = test;
     }
 
     static void due(String call, long got, long want) {
         asked++;
         if (got != want) {
             wrong++;
-            System.out.println(call + " answered " + got + ", due is " + want);
+            System.out.println(about + call + " answered " + got + ", due is " + want);
         }
+    }
+
+    static void holds(String what, boolean is) {
+        due(what, is ? 1 : 0, 1);
     }
 
     static void end() {

@@ -244,23 +244,6 @@ public final class WalksTest {
         }
     }
 
-    /** All that is told about the state but the text. */
-    private static String whole(PickSlots x) {
-        StringBuilder told = new StringBuilder();
-        for (int good = 0; good < 20; good++) {
-            for (int what = 0; what <= 11; what++) {
-                told.append(x.goodOf(good, what)).append(' ');
-            }
-        }
-        for (int slot = 0; slot < 60; slot++) {
-            told.append(x.slotOf(slot, 0)).append(' ');
-        }
-        for (int what = 0; what < 8; what++) {
-            told.append(x.account(what)).append(' ').append(x.count(what)).append(' ');
-        }
-        return told.append(x.count(20)).append(' ').append(x.count(21)).append(' ').append(x.count(22)).toString();
-    }
-
     private static PickSlots prepared() {
         PickSlots x = new PickSlots();
         x.good(3, 10);
@@ -298,11 +281,11 @@ public final class WalksTest {
         for (int which = 0; which <= 12; which++) {
             PickSlots x = prepared();
             Check.typeText(x, "p0,2;m1,9;w;");
-            String before = whole(x);
+            String before = Made.whole(x);
             Check.due("change " + which + " is possible", change(x, which) >= 0 ? 1 : 0, 1);
-            Check.due("change " + which + " changes", before.equals(whole(x)) ? 1 : 0, 0);
+            Check.due("change " + which + " changes", before.equals(Made.whole(x)) ? 1 : 0, 0);
             Check.due("undo " + which, x.undo(), 3);
-            Check.due("undo of change " + which + " restores all", before.equals(whole(x)) ? 1 : 0, 1);
+            Check.due("undo of change " + which + " restores all", before.equals(Made.whole(x)) ? 1 : 0, 1);
         }
     }
 
@@ -323,12 +306,12 @@ public final class WalksTest {
     private static void errorsChangeNothing() {
         PickSlots x = prepared();
         Check.typeText(x, "p0,2;m1,9;w;w");
-        String before = whole(x);
+        String before = Made.whole(x);
         Check.ignore(x.good(0, 5) + x.demand(0, 4, 7) + x.deliver(0, 0) + x.place(0, 5) + x.take(2));
         Check.ignore(x.pick(1, 11) + x.pick(2, 1) + x.refill(2) + x.move(0, 57) + x.exchange(0, 2));
         Check.ignore(x.improve(0) + x.set(1, 0) + x.play() + x.fault(0) + x.fault(1) + x.worth(0, 1, 0));
         Check.ignore(x.best(0) + x.weekly(0) + x.atBest(0) + x.nearest(0) + x.type(31));
-        Check.due("nothing is changed", before.equals(whole(x)) ? 1 : 0, 1);
+        Check.due("nothing is changed", before.equals(Made.whole(x)) ? 1 : 0, 1);
         Check.due("no states", x.count(8), 4);
         Check.due("no text", x.count(9), 13);
     }
